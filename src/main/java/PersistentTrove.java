@@ -589,7 +589,7 @@ public final class PersistentTrove {
     private long hashedValue(Node root, long key) {
         Node home = Node.homeOf(root, hashMask, key);
         int place = home == null ? -1 : home.placeOf(hashMask, key);
-        needThere(place >= 0);
+        needThere(home != null && place >= 0);
         return home.values[place];
     }
 
@@ -1418,7 +1418,8 @@ public final class PersistentTrove {
             own.keyBits = keyBits;
             own.nodeBits = nodeBits;
             own.total = total;
-            own.keys = keys.length == 0 ? keys : keys.clone();
+            // A row of keys is never changed, only replaced, so it can be shared.
+            own.keys = keys;
             own.values = values.length == 0 ? values : values.clone();
             return own;
         }
@@ -1575,7 +1576,8 @@ public final class PersistentTrove {
                     place++;
                 }
                 if ((nodeBits >>> number & 1) != 0) {
-                    if (below >= nodes.length || !isSound(nodes[below], level + 1, mask, longerPath)) {
+                    if (below >= nodes.length || nodes[below] == null
+                            || !isSound(nodes[below], level + 1, mask, longerPath)) {
                         return false;
                     }
                     found += nodes[below].total;

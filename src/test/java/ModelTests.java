@@ -366,7 +366,9 @@ public final class ModelTests {
         try {
             return Long.toString(call.getAsLong());
         } catch (RuntimeException e) {
-            return e.getClass().getSimpleName();
+            // The machine's own division by 0 tells itself by these words.
+            boolean machine = "/ by zero".equals(e.getMessage());
+            return machine ? "the machine threw" : e.getClass().getSimpleName();
         }
     }
 

@@ -53,10 +53,12 @@ public final class PromiseTests {
         range();
         join();
         joinOfKeys();
+        joinOfOverlapping();
         joinOfStreams();
         meet();
         shape();
         same();
+        sameInOtherWays();
         map();
         mapOfStream();
         filter();
@@ -65,6 +67,7 @@ public final class PromiseTests {
         take();
         list();
         turn();
+        turnOfFull();
         open();
         build();
         look();
@@ -139,13 +142,18 @@ public final class PromiseTests {
     private static void failsOnly(Class<?> want, Runnable call) {
         String before = picture();
         Class<?> got = null;
+        String message = null;
         try {
             call.run();
         } catch (RuntimeException e) {
             got = e.getClass();
+            message = e.getMessage();
         }
         if (got != want) {
             tell("threw " + got + ", due is " + want);
+        }
+        if (message != null && message.equals("/ by zero")) {
+            tell("the machine itself threw");
         }
         if (!before.equals(picture())) {
             tell("changed something, though it threw");
@@ -525,7 +533,9 @@ public final class PromiseTests {
         onlyKinds(slot -> t.push(10, slot, 1), SEQUENCE, STREAM);
         badSlots(slot -> t.push(slot, 0, 1));
         badSlots(slot -> t.push(0, slot, 1));
-        longSequence(5, 1000);
+        longSequence(5, 999);
+        t.push(5, 5, 1);
+        is(1000, () -> t.size(5));
         fails(FULL, () -> t.push(6, 5, 1));
         t.turn(5, 5);
         t.push(5, 5, -1);
@@ -972,6 +982,8 @@ public final class PromiseTests {
         t.add(1, 1, 16 * 256 + 9);
         fails(FULL, () -> t.join(2, 0, 1));
         fails(FULL, () -> t.join(2, 1, 0));
+        joinOfAlike();
+        begin("promise 18", 0);
         entries(3, TREE, 1, 1);
         t.make(4, TREE);
         for (int i = 0; i < 1000; i++) {
@@ -983,6 +995,50 @@ public final class PromiseTests {
         is(7, () -> t.find(5, 2));
         is(1000, () -> t.join(5, 3, 4));
         is(1, () -> t.find(5, 2));
+    }
+
+    /** Keys of one HASH are counted for each HASH by itself. */
+    private static void joinOfAlike() {
+        begin("promise 18", 1);
+        setOf(0);
+        for (int i = 0; i < 15; i++) {
+            t.add(0, 0, i * 256 + 1);
+            t.add(0, 0, i * 256 + 2);
+            t.add(0, 0, i * 256 + 9);
+        }
+        setOf(1, 15 * 256 + 1, 15 * 256 + 2, 15 * 256 + 9);
+        is(48, () -> t.join(2, 0, 1));
+        setOf(1, 15 * 256 + 1, 15 * 256 + 2, 15 * 256 + 9, 16 * 256 + 9);
+        fails(FULL, () -> t.join(2, 0, 1));
+        setOf(1, 15 * 256 + 1, 16 * 256 + 2, 15 * 256 + 2, 15 * 256 + 9);
+        fails(FULL, () -> t.join(2, 0, 1));
+    }
+
+    /** The keys that both have are counted once. */
+    private static void joinOfOverlapping() {
+        begin("promise 18", 0);
+        for (int kind : new int[] {MAP, TREE}) {
+            t.make(0, kind);
+            t.make(1, kind);
+            for (int i = 0; i < 1000; i++) {
+                if (i < 600) {
+                    t.put(0, 0, i, 0);
+                }
+                if (i >= 200) {
+                    t.put(1, 1, i, 1);
+                }
+            }
+            is(1000, () -> t.join(2, 0, 1));
+            is(0, () -> t.find(2, 199));
+            is(1, () -> t.find(2, 200));
+            is(1000, () -> t.join(2, 1, 0));
+            is(0, () -> t.find(2, 599));
+            is(1, () -> t.find(2, 600));
+            is(1000, () -> t.join(3, 2, 2));
+            t.put(1, 1, 1000, 1);
+            fails(FULL, () -> t.join(2, 0, 1));
+            fails(FULL, () -> t.join(2, 1, 0));
+        }
     }
 
     private static void joinOfStreams() {
@@ -1157,6 +1213,66 @@ public final class PromiseTests {
         fails(FULL, () -> t.same(0, 0));
         sequence(1, 1, 2);
         is(0, t.same(0, 1));
+    }
+
+    /** How one was made leaves no trace. */
+    private static void sameInOtherWays() {
+        begin("promise 21", 0);
+        sequence(0, 3, 4, 5);
+        t.iterate(1, 3, 0, 1);
+        t.list(1, 1, 3);
+        is(1, t.same(0, 1));
+        t.map(1, 0, 0, 0);
+        is(1, t.same(0, 1));
+        t.filter(1, 0, 4, 0);
+        is(1, t.same(1, 0));
+        t.open(0, 0);
+        t.freeze(0, 1);
+        is(1, t.same(0, 1));
+        setOf(1, 4, 5, 3);
+        t.turn(1, 1);
+        is(1, t.same(0, 1));
+        t.set(1, 1, 0, 3);
+        is(1, t.same(0, 1));
+        // Numbers and sizes are alike, keys are not.
+        setOf(2, 5, 33);
+        setOf(3, 5, 65);
+        is(0, t.same(2, 3));
+        // As many in all, but three and two here, two and three there.
+        setOf(2, 1, 1L << 32 | 1, 2L << 32 | 1, 2, 1L << 32 | 2);
+        setOf(3, 1, 1L << 32 | 1, 2L << 32 | 2, 2, 1L << 32 | 2);
+        is(0, t.same(2, 3));
+        t.add(2, 2, 2L << 32 | 2);
+        t.add(3, 3, 2L << 32 | 1);
+        is(1, t.same(2, 3));
+        entries(2, MAP, 5, 1);
+        t.make(3, MAP);
+        is(0, t.same(2, 3));
+        is(0, t.same(3, 2));
+        sameHeaps();
+    }
+
+    private static void sameHeaps() {
+        begin("promise 21", 0);
+        for (int total : new int[] {1, 2, 3, 7, 8, 200, 1000}) {
+            t.make(0, HEAP);
+            t.make(1, HEAP);
+            for (int i = 0; i < total; i++) {
+                t.add(0, 0, i * 7L % 501 - 250);
+                t.add(1, 1, (total - 1 - i) * 7L % 501 - 250);
+            }
+            is(1, t.same(0, 1));
+            is(1, t.same(1, 0));
+            long gone = t.pop(1, 1);
+            is(0, t.same(0, 1));
+            t.add(2, 1, gone + 1);
+            is(0, t.same(0, 2));
+            t.add(2, 1, 1000);
+            is(0, t.same(2, 0));
+            t.add(2, 1, gone);
+            is(1, t.same(2, 0));
+            begin("promise 21", 0);
+        }
     }
 
     private static void map() {
@@ -1497,9 +1613,31 @@ public final class PromiseTests {
         fails(FULL, () -> t.turn(7, 3));
         fails(FULL, () -> t.turn(7, 4));
         fails(FULL, () -> t.turn(7, 5));
+        fails(FULL, () -> t.turn(3, 3));
         t.turn(7, 6);
         is(3, () -> t.at(7, 2));
         fails(FULL, () -> t.at(7, 3));
+    }
+
+    private static void turnOfFull() {
+        begin("promise 27", 0);
+        longSet(0, 1000);
+        t.turn(1, 0);
+        t.make(2, MAP);
+        t.make(3, TREE);
+        for (int i = 0; i < 1000; i++) {
+            t.put(2, 2, i, -i);
+            t.put(3, 3, i, -i);
+        }
+        t.turn(4, 2);
+        t.turn(5, 3);
+        for (int i = 0; i < 1000; i++) {
+            int place = i;
+            is(t.at(0, place), () -> t.at(1, place));
+            is(-t.at(2, place), () -> t.at(4, place));
+            is(-place, () -> t.at(5, place));
+        }
+        is(3000, () -> t.count(MOVES));
     }
 
     private static void open() {
@@ -1792,6 +1930,16 @@ public final class PromiseTests {
         t.turn(5, 5);
         t.take(5, 5, 3);
         runs(5, 25, 26, 27);
+        // What iterate, turn and make give has no depth.
+        numbers(7);
+        sequence(8, 1, 2);
+        t.turn(8, 8);
+        for (int depth = 1; depth <= 100; depth++) {
+            t.map(7, 7, 0, 1);
+            t.filter(8, 8, 4, 1);
+        }
+        is(100, () -> t.front(7));
+        is(1, () -> t.front(8));
         // An empty one keeps its depth, and gives it on.
         t.make(6, STREAM);
         for (int depth = 1; depth <= 100; depth++) {
