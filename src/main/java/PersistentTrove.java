@@ -957,8 +957,10 @@ public final class PersistentTrove {
             this.key = key;
             this.value = value;
             this.right = right;
-            this.height = 1 + Math.max(heightOf(left), heightOf(right));
-            this.size = 1 + sizeOf(left) + sizeOf(right);
+            int leftHeight = left == null ? 0 : left.height;
+            int rightHeight = right == null ? 0 : right.height;
+            this.height = 1 + (leftHeight >= rightHeight ? leftHeight : rightHeight);
+            this.size = 1 + (left == null ? 0 : left.size) + (right == null ? 0 : right.size);
         }
 
         static int heightOf(Branch tree) {
@@ -1252,9 +1254,9 @@ public final class PersistentTrove {
             return root == null ? 0 : root.total;
         }
 
-        /** The bit that stands for a key's number at a level above the bottom. */
-        private static int bitOf(long key, int mask, int level) {
-            return 1 << (hashOf(key, mask) >>> LEVEL_BITS * level & NUMBER_MASK);
+        /** The bit that stands for a HASH's number at a level; 0 at the bottom, where numbers are no more. */
+        private static int bitOf(int hash, int level) {
+            return level < BOTTOM ? 1 << (hash >>> LEVEL_BITS * level & NUMBER_MASK) : 0;
         }
 
         private static int rankOf(int bit, int bits) {
@@ -1263,16 +1265,17 @@ public final class PersistentTrove {
 
         /** The deepest NODE on the way of a key's HASH: the key is in it or nowhere. */
         static Node homeOf(Node root, int mask, long key) {
+            int hash = hashOf(key, mask);
             Node here = root;
-            while (here != null && here.level < BOTTOM && (here.nodeBits & bitOf(key, mask, here.level)) != 0) {
-                here = here.nodes[rankOf(bitOf(key, mask, here.level), here.nodeBits)];
+            while (here != null && (here.nodeBits & bitOf(hash, here.level)) != 0) {
+                here = here.nodes[rankOf(bitOf(hash, here.level), here.nodeBits)];
             }
             return here;
         }
 
         /** The place of the key among the keys of its home; -1 if it is not there. */
         private int placeOf(int mask, long key) {
-            int place = level < BOTTOM ? rankOf(bitOf(key, mask, level), keyBits) : sortedPlace(key);
+            int place = level < BOTTOM ? rankOf(bitOf(hashOf(key, mask), level), keyBits) : sortedPlace(key);
             return place < keys.length && keys[place] == key ? place : -1;
         }
 
@@ -1312,7 +1315,7 @@ public final class PersistentTrove {
 
         private static Node adding(Node node, int edit, int mask, long key, long value) {
             Node own = node.ownedBy(edit);
-            int bit = own.level < BOTTOM ? bitOf(key, mask, own.level) : 0;
+            int bit = bitOf(hashOf(key, mask), own.level);
             int place = own.placeOf(mask, key);
             if (place >= 0) {
                 own.values[place] = value;
@@ -1346,8 +1349,8 @@ public final class PersistentTrove {
         }
 
         private static Node pairOf(int level, int edit, int mask, long oldKey, long oldValue, long key, long value) {
-            int oldBit = level < BOTTOM ? bitOf(oldKey, mask, level) : 0;
-            int bit = level < BOTTOM ? bitOf(key, mask, level) : 0;
+            int oldBit = bitOf(hashOf(oldKey, mask), level);
+            int bit = bitOf(hashOf(key, mask), level);
             if (level < BOTTOM && oldBit == bit) {
                 Node[] only = {pairOf(level + 1, edit, mask, oldKey, oldValue, key, value)};
                 Node node = new Node(level, edit, only);
@@ -1355,14 +1358,15 @@ public final class PersistentTrove {
                 node.total = 2;
                 return node;
             }
+            boolean oldFirst = level < BOTTOM ? Integer.compareUnsigned(oldBit, bit) < 0 : oldKey < key;
             Node node = new Node(level, edit, new Node[0]);
-            node.insertKey(oldBit, oldKey, oldValue);
-            node.insertKey(bit, key, value);
+            node.keys = oldFirst ? new long[] {oldKey, key} : new long[] {key, oldKey};
+            node.values = oldFirst ? new long[] {oldValue, value} : new long[] {value, oldValue};
+            node.keyBits = oldBit | bit;
             node.total = 2;
             return node;
         }
 
-        /** At the bottom, where numbers are no more, the bit is 0. */
         private void insertKey(int bit, long key, long value) {
             int place = level < BOTTOM ? rankOf(bit, keyBits) : sortedPlace(key);
             keys = withNumber(keys, place, key);
@@ -1387,7 +1391,7 @@ public final class PersistentTrove {
         private static Node removing(Node node, int edit, int mask, long key) {
             Node own = node.ownedBy(edit);
             own.total--;
-            int bit = own.level < BOTTOM ? bitOf(key, mask, own.level) : 0;
+            int bit = bitOf(hashOf(key, mask), own.level);
             int place = own.placeOf(mask, key);
             if (place >= 0) {
                 own.removeKey(place, bit);
