@@ -1095,6 +1095,11 @@ public final class PromiseTests {
         badSlots(slot -> t.meet(slot, SET, SET, true));
         badSlots(slot -> t.meet(SET, slot, SET, true));
         badSlots(slot -> t.meet(SET, SET, slot, true));
+        longSet(4, 1000);
+        setOf(5, 1, 999);
+        is(2, () -> t.meet(6, 4, 5, false));
+        is(998, () -> t.meet(6, 4, 5, true));
+        is(1000, () -> t.meet(6, 4, 4, false));
         setOf(4, 1, 2, 3);
         setOf(5, 1);
         leaveMoves(2);
@@ -1401,6 +1406,12 @@ public final class PromiseTests {
         onlyKinds(slot -> t.filter(10, slot, 0, 1), SEQUENCE, SET, STREAM);
         badSlots(slot -> t.filter(slot, 0, 0, 1));
         badSlots(slot -> t.filter(0, slot, 0, 1));
+        longSet(2, 1000);
+        t.filter(3, 2, 0, 500);
+        is(500, () -> t.size(3));
+        longSequence(2, 1000);
+        t.filter(3, 2, 0, 500);
+        is(499, () -> t.at(3, 499));
         setOf(2, 1, 2, 3);
         sequence(3, 1, 2, 3);
         leaveMoves(2);
