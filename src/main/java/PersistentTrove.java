@@ -1358,7 +1358,7 @@ public final class PersistentTrove {
                 node.total = 2;
                 return node;
             }
-            boolean oldFirst = level < BOTTOM ? Integer.compareUnsigned(oldBit, bit) < 0 : oldKey < key;
+            boolean oldFirst = level < BOTTOM ? rankOf(oldBit, bit) == 0 : oldKey < key;
             Node node = new Node(level, edit, new Node[0]);
             node.keys = oldFirst ? new long[] {oldKey, key} : new long[] {key, oldKey};
             node.values = oldFirst ? new long[] {oldValue, value} : new long[] {value, oldValue};

@@ -1164,6 +1164,10 @@ public final class PromiseTests {
         sequence(1, 1, 3, 2);
         is(0, t.same(0, 1));
         is(17, () -> t.count(MOVES));
+        sequence(1, 9, 2, 3);
+        is(0, t.same(0, 1));
+        sequence(1, 1, 2, 9);
+        is(0, t.same(0, 1));
         for (int kind : new int[] {MAP, TREE}) {
             entries(2, kind, 1, 10, 2, 20, 1L << 32 | 1, 5);
             entries(3, kind, 1L << 32 | 1, 5, 2, 20, 1, 10);
