@@ -724,6 +724,27 @@ public final class PromiseBoundaryTests extends Boundary {
         areSame(false, scene().thousand(0).with(t -> t.set(1, 0, 999, 0)));
         areSame(false, scene().thousand(0).with(t -> t.set(1, 0, 0, 1)));
         areSame(true, scene().thousand(0).with(t -> t.drop(1, 0, 1, true), t -> t.push(1, 1, 0)));
+        sameHoweverMade();
+    }
+
+    /** Slot 0 is made by add; how the other was made leaves no trace. */
+    private static void sameHoweverMade() {
+        Scene added = scene().holding(0, SEQUENCE, 3, 4, 5);
+        areSame(true, added.with(t -> t.iterate(1, 3, 0, 1), t -> t.list(1, 1, 3)));
+        areSame(true, added.with(t -> t.make(1, SEQUENCE), t -> t.push(1, 1, 5), t -> t.push(1, 1, 4), t -> t.push(1, 1, 3)));
+        areSame(true, added.with(t -> t.map(1, 0, 0, 0)));
+        areSame(true, added.with(t -> t.filter(1, 0, 4, 0)));
+        areSame(true, added.with(t -> t.set(1, 0, 1, 9), t -> t.set(1, 1, 1, 4)));
+        areSame(true, added.with(t -> t.add(1, 0, 6), t -> t.pop(1, 1)));
+        areSame(true, added.with(t -> t.drop(1, 0, 1, false), t -> t.drop(2, 0, 2, true), t -> t.join(1, 1, 2)));
+        areSame(true, added.with(t -> t.open(0, 0), t -> t.freeze(0, 1)));
+        areSame(true, added.holding(1, SET, 3, 4, 5).with(t -> t.turn(1, 1)));
+        areSame(true, added.holding(1, MAP).with(t -> t.put(1, 1, 0, 3), t -> t.put(1, 1, 1, 4), t -> t.put(1, 1, 2, 5),
+                t -> t.turn(1, 1)));
+        Scene tree = scene().holding(0, TREE, 1, 2, 3, 4, 5, 6, 7).holding(1, TREE, 7, 6, 5, 4, 3, 2, 1, 0, 9);
+        areSame(false, tree);
+        areSame(true, tree.with(t -> t.range(1, 1, 1, 9)));
+        areSame(true, tree.with(t -> t.out(1, 1, 0), t -> t.out(1, 1, 9)));
     }
 
     private static void sameHeaps() {
@@ -739,6 +760,17 @@ public final class PromiseBoundaryTests extends Boundary {
         areSame(false, full);
         areSame(true, scene().grown(0, HEAP, 1000).grown(1, HEAP, 1000));
         areSame(true, scene().holding(0, HEAP, 3, 1, 2).holding(1, HEAP, 2, 0, 3, 1).with(t -> t.pop(1, 1)));
+        for (int size = 1; size <= 40; size++) {
+            int n = size;
+            // The same ones forwards and backwards, in a mixed order; then one more, one less, one other.
+            Scene mixed = scene().with(t -> t.make(0, HEAP), t -> t.make(1, HEAP))
+                    .each(n, (t, i) -> t.add(0, 0, i * 17 % 41)).each(n, (t, i) -> t.add(1, 1, (n - 1 - i) * 17 % 41));
+            areSame(true, mixed);
+            areSame(false, mixed.with(t -> t.pop(1, 1)));
+            areSame(false, mixed.with(t -> t.pop(1, 1), t -> t.add(1, 1, 41)));
+            areSame(false, mixed.with(t -> t.add(1, 1, 5)));
+            areSame(true, mixed.with(t -> t.join(0, 0, 0), t -> t.join(1, 1, 1)));
+        }
     }
 
     // ---------------------------------------------------------------- 22, 23

@@ -446,6 +446,24 @@ public final class TermBoundaryTests extends Boundary {
             Scene sixteen = fifteen.with(t -> put(t, 1, kind, alike(grain, 15, 9)));
             sixteen.refuses(FULL, t -> t.join(2, 0, 1));
             sixteen.refuses(FULL, t -> t.join(2, 1, 0));
+            if (grain < 2) {
+                sixteenOfEach(grain, kind);
+            }
+        }
+    }
+
+    /** For each HASH by itself: the sixteenth of one does not stand in the way of another's. */
+    private static void sixteenOfEach(int grain, int kind) {
+        Scene many = scene(grain).with(t -> t.make(0, kind), t -> t.make(1, kind))
+                .each(30, (t, i) -> put(t, 0, kind, alike(grain, i / 2, 8 + i % 2)));
+        Scene last = many.with(t -> put(t, 1, kind, alike(grain, 15, 8)), t -> put(t, 1, kind, alike(grain, 15, 9)));
+        last.due(32, t -> t.join(2, 0, 1));
+        last.due(32, t -> t.join(2, 1, 0));
+        for (int hash = 8; hash <= 9; hash++) {
+            int h = hash;
+            Scene more = last.with(t -> put(t, 1, kind, alike(grain, 16, h)));
+            more.refuses(FULL, t -> t.join(2, 0, 1));
+            more.refuses(FULL, t -> t.join(2, 1, 0));
         }
     }
 
