@@ -972,7 +972,7 @@ public final class PersistentTrove {
         }
 
         /** For sides of any heights: goes down the higher one to where the other fits. */
-        static Branch linked(Branch left, long key, long value, Branch right) {
+        private static Branch linked(Branch left, long key, long value, Branch right) {
             if (left != null && left.height > heightOf(right) + 1) {
                 return balanced(left.left, left.key, left.value, linked(left.right, key, value, right));
             }
@@ -1019,7 +1019,7 @@ public final class PersistentTrove {
             return middle == null ? first : linked(first, middle.key, middle.value, withoutFirst(then, 1));
         }
 
-        static Branch firstOf(Branch tree, int n) {
+        private static Branch firstOf(Branch tree, int n) {
             if (tree == null || n <= 0) {
                 return null;
             }
@@ -1033,7 +1033,7 @@ public final class PersistentTrove {
             return linked(tree.left, tree.key, tree.value, firstOf(tree.right, n - before - 1));
         }
 
-        static Branch withoutFirst(Branch tree, int n) {
+        private static Branch withoutFirst(Branch tree, int n) {
             if (tree == null || n >= tree.size) {
                 return null;
             }
@@ -1065,7 +1065,7 @@ public final class PersistentTrove {
             return null;
         }
 
-        static Branch withValueAt(Branch tree, int i, long value) {
+        private static Branch withValueAt(Branch tree, int i, long value) {
             if (tree == null) {
                 return null;
             }
@@ -1079,7 +1079,7 @@ public final class PersistentTrove {
             return new Branch(tree.left, tree.key, value, tree.right);
         }
 
-        static Branch ofRow(long[] row, int low, int high) {
+        private static Branch ofRow(long[] row, int low, int high) {
             if (low < 0 || low >= high || high > row.length) {
                 return null;
             }
@@ -1088,7 +1088,7 @@ public final class PersistentTrove {
         }
 
         /** Answers the place in the row behind the last one. */
-        static int pourValues(Branch tree, long[] row, int start) {
+        private static int pourValues(Branch tree, long[] row, int start) {
             if (tree == null) {
                 return start;
             }
@@ -1108,7 +1108,7 @@ public final class PersistentTrove {
             return here;
         }
 
-        static Branch withKey(Branch tree, long key, long value) {
+        private static Branch withKey(Branch tree, long key, long value) {
             if (tree == null) {
                 return new Branch(null, key, value, null);
             }
@@ -1125,7 +1125,7 @@ public final class PersistentTrove {
             return branchWith(tree, key) == null ? tree : chained(below(tree, key), above(tree, key, false));
         }
 
-        static Branch below(Branch tree, long high) {
+        private static Branch below(Branch tree, long high) {
             if (tree == null) {
                 return null;
             }
@@ -1135,7 +1135,7 @@ public final class PersistentTrove {
             return linked(tree.left, tree.key, tree.value, below(tree.right, high));
         }
 
-        static Branch above(Branch tree, long low, boolean lowToo) {
+        private static Branch above(Branch tree, long low, boolean lowToo) {
             if (tree == null) {
                 return null;
             }
@@ -1162,7 +1162,7 @@ public final class PersistentTrove {
             return best;
         }
 
-        static int commonKeys(Branch one, Branch other) {
+        private static int commonKeys(Branch one, Branch other) {
             if (one == null) {
                 return 0;
             }
@@ -1170,7 +1170,7 @@ public final class PersistentTrove {
             return here + commonKeys(one.left, other) + commonKeys(one.right, other);
         }
 
-        static Branch united(Branch one, Branch winner) {
+        private static Branch united(Branch one, Branch winner) {
             if (one == null || winner == null) {
                 return one == null ? winner : one;
             }
@@ -1193,7 +1193,7 @@ public final class PersistentTrove {
             return true;
         }
 
-        static boolean isSound(Branch tree) {
+        private static boolean isSound(Branch tree) {
             if (tree == null) {
                 return true;
             }
@@ -1206,7 +1206,7 @@ public final class PersistentTrove {
         }
 
         /** Whether the keys rise, from low to high at most; a key at the very edge has none beyond it. */
-        static boolean isSorted(Branch tree, long low, long high) {
+        private static boolean isSorted(Branch tree, long low, long high) {
             if (tree == null) {
                 return true;
             }
@@ -1479,7 +1479,7 @@ public final class PersistentTrove {
         }
 
         /** In ORDER; answers the place in the row behind the last one. */
-        static int pourKeys(Node node, long[] row, int start) {
+        private static int pourKeys(Node node, long[] row, int start) {
             if (node == null || node.total > row.length - start) {
                 return start;
             }
@@ -1491,7 +1491,7 @@ public final class PersistentTrove {
             return next;
         }
 
-        static int pourValues(Node node, long[] row, int start) {
+        private static int pourValues(Node node, long[] row, int start) {
             if (node == null || node.total > row.length - start) {
                 return start;
             }
@@ -1503,7 +1503,7 @@ public final class PersistentTrove {
             return next;
         }
 
-        static int shapeOf(Node node) {
+        private static int shapeOf(Node node) {
             if (node != null && node.level == BOTTOM) {
                 return BOTTOM + node.keys.length;
             }
@@ -1517,7 +1517,7 @@ public final class PersistentTrove {
         }
 
         /** What has the same keys has the same NODES, so these are compared one by one. */
-        static boolean alike(Node one, Node other) {
+        private static boolean alike(Node one, Node other) {
             if (one == other) {
                 return true;
             }
@@ -1547,7 +1547,7 @@ public final class PersistentTrove {
         }
 
         /** Whether all below is where it belongs; the path is the bits that the HASHES here have in common. */
-        static boolean isSound(Node node, int level, int mask, int path) {
+        private static boolean isSound(Node node, int level, int mask, int path) {
             if (node == null) {
                 return true;
             }
@@ -1618,7 +1618,7 @@ public final class PersistentTrove {
             return pile == null ? 0 : pile.size;
         }
 
-        static Pile merged(Pile one, Pile other) {
+        private static Pile merged(Pile one, Pile other) {
             if (one == null || other == null) {
                 return one == null ? other : one;
             }
@@ -1629,7 +1629,7 @@ public final class PersistentTrove {
         }
 
         /** A left edge may be long: it is walked, and only right sides, which halve, are gone into. */
-        static int pour(Pile pile, long[] row, int start) {
+        private static int pour(Pile pile, long[] row, int start) {
             int next = start;
             for (Pile here = pile; here != null && next < row.length; here = here.left) {
                 row[next] = here.value;
@@ -1638,7 +1638,7 @@ public final class PersistentTrove {
             return next;
         }
 
-        static boolean isSound(Pile pile) {
+        private static boolean isSound(Pile pile) {
             for (Pile here = pile; here != null; here = here.left) {
                 if (here.size != 1 + sizeOf(here.left) + sizeOf(here.right)
                         || sizeOf(here.left) < sizeOf(here.right)

@@ -76,6 +76,7 @@ public final class PromiseTests {
         cells();
         moves();
         depth();
+        readme();
         if (wrong > 0) {
             System.out.println(wrong + " answers are not as due");
             System.exit(1);
@@ -1963,5 +1964,22 @@ public final class PromiseTests {
         fails(FULL, () -> t.map(7, 6, 0, 1));
         fails(FULL, () -> t.join(7, 6, 1));
         runs(6);
+    }
+
+    /** The example that README.md gives. */
+    private static void readme() {
+        begin("README.md, Use", 0);
+        t.make(0, 0);
+        is(1, () -> t.add(1, 0, 42));
+        t.iterate(2, 1, 1, 2);
+        is(10, () -> t.list(3, 2, 10));
+        t.open(0, 3);
+        is(11, () -> t.build(0, 0, 0, 7));
+        is(11, () -> t.freeze(0, 4));
+        holds(0);
+        holds(1, 42);
+        begins(2, 1, 2, 4, 8);
+        holds(3, 1, 2, 4, 8, 16, 32, 64, 128, 256, 512);
+        holds(4, 1, 2, 4, 8, 16, 32, 64, 128, 256, 512, 7);
     }
 }
